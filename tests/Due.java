@@ -1,0 +1,55 @@
+/** What the tests share: counts answers that are not the due ones, and makes objects from texts. */
+final class Due {
+    private static int wrong = 0;
+    private static int asked = 0;
+
+    private Due() {
+    }
+
+    static void is(String call, long got, long want) {
+        asked++;
+        if (got != want) {
+            wrong++;
+            System.out.println(call + " answered " + got + ", due is " + want);
+        }
+    }
+
+    static int wrongOnes() {
+        return wrong;
+    }
+
+    /** Ends the test: with exit code 1 if an answer was wrong. */
+    static void end(String test) {
+        System.out.println(test + ": " + asked + " answers, " + wrong + " wrong");
+        if (wrong != 0 || asked == 0) {
+            System.exit(1);
+        }
+    }
+
+    static PuddleStates withText(String text) {
+        PuddleStates puddles = new PuddleStates();
+        for (int i = 0; i < text.length(); i++) {
+            is("write '" + text.charAt(i) + "' of " + text, puddles.write(text.charAt(i)), i + 1);
+        }
+        return puddles;
+    }
+
+    static PuddleStates laid(String text) {
+        PuddleStates puddles = withText(text);
+        is("fault() of " + text, puddles.fault(), PuddleStates.NONE);
+        int cells = puddles.lay();
+        is("lay() of " + text, cells, puddles.count(0));
+        if (cells < 0) {
+            throw new IllegalStateException("no square for the test: " + text);
+        }
+        return puddles;
+    }
+
+    /** The drops of all cells, in their order, against those that are due. */
+    static void drops(String when, PuddleStates puddles, int... want) {
+        is(when + ": cells", puddles.count(0), want.length);
+        for (int x = 0; x < want.length; x++) {
+            is(when + ": drops of cell " + x, puddles.cell(x, 2), want[x]);
+        }
+    }
+}

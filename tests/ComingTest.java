@@ -159,6 +159,15 @@ final class ComingTest {
         Due.is("dry by then", sun.dry(0), 60);
         Due.is("in the shade", shade.part(0, 3), NONE);
         Due.is("nor dry", shade.dry(0), NONE);
+        // 30 and 31 drops in the shade, an odd hour gone by: they last for 59 hours and for 61.
+        PuddleStates late = Due.laid("s2,2;k0,1;k1,1;k2,3;k3,3;w0,20;w1,20;");
+        late.rain(9);
+        late.rain(1);
+        Due.is("60 hours", late.part(0, 1), 60);
+        late.shine(1);
+        Due.is("59 hours", late.part(0, 1), 59);
+        late.rain(1);
+        Due.is("61 hours", late.part(0, 1), NONE);
         PuddleStates one = Due.laid("s2,2;w0,1;w1,1;w2,1;w3,1;");
         Due.is("1 drop", one.part(0, 3), 1);
     }
@@ -183,6 +192,7 @@ final class ComingTest {
         PuddleStates last = Due.laid("s2,2;w0,1;w1,1;");
         Due.is("he needs drops behind the hour, too", last.way(0, 1), NONE);
         Due.is("none to stay in", last.way(0, 0), 0);
+        Due.is("not by dry cells", Due.laid("s2,2;w1,9;w2,9;h0,20;h3,20;").way(1, 2), NONE);
         Due.is("round a kerb", Due.laid("s2,2;k1,3;w0,9;w2,9;w3,9;").way(0, 3), 2);
         Due.is("not by a corner", Due.laid("s2,2;k1,3;k2,3;w0,9;w3,9;").way(0, 3), NONE);
     }
@@ -260,6 +270,23 @@ final class ComingTest {
         Due.is("the drain is looked at, but parts none", r.kerb(0, 3, 1), 2);
         Due.is("a drain is apart from all", r.kerb(0, 1, 9), 100);
         Due.is("a kerb is apart from all", p.kerb(0, 3, 9), 100);
+        Due.is("by cell 0", Due.laid("s2,2;k3,3;").kerb(1, 2, 1), 0);
+        PuddleStates other = new PuddleStates();
+        for (char letter : "s6,6;k1,3;".toCharArray()) {
+            other.write(letter);
+        }
+        int[] ahead = {other.kerb(6, 17, 1), other.kerb(6, 7, 1), other.kerb(7, 17, 1)};
+        Due.is("a text not laid has no fault", other.fault(), NONE);
+        Due.is("and is no matter for kerbs", other.kerb(6, 17, 1), ahead[0]);
+        Due.is("and is no matter for kerbs", other.kerb(6, 7, 1), ahead[1]);
+        Due.is("and is no matter for kerbs", other.kerb(7, 17, 1), ahead[2]);
+        PuddleStates lane = Due.laid("s2,4;k4,3;k5,3;k6,3;k7,3;");
+        lane.wipe();
+        for (char letter : "s6,2;".toCharArray()) {
+            lane.write(letter);
+        }
+        lane.fault();
+        Due.is("a lane of 4 by its second cell", lane.kerb(0, 3, 1), 1);
         PuddleStates pump = Due.laid("s2,3;k1,4;k3,3;k4,3;k5,3;");
         Due.is("a pump can be a kerb", pump.kerb(0, 2, 1), 1);
         PuddleStates wall = Due.laid("s2,3;k3,3;k4,3;k5,3;w0,5;");

@@ -28,7 +28,6 @@ final class FaceTest {
             }
         }
         Collections.sort(seen);
-        System.out.println(seen);
         Due.is("the methods are those of the document", seen.equals(Arrays.asList(DUE)) ? 1 : 0, 1);
         for (String name : DUE) {
             Due.is("a private method like " + name, hidden.contains(name.substring(0, name.indexOf('('))) ? 1 : 0, 0);

@@ -124,6 +124,16 @@ final class SquareTest {
 
         Due.drops("no drops in a drain, a kerb", Due.laid("s2,2;w0,5;w1,5;k0,2;k1,3;k2,2;k3,3;w2,5;w3,5;"), 0, 0, 0, 0);
         Due.drops("a kind told back", Due.laid("s2,2;k0,3;w0,1;k0,0;"), 1, 0, 0, 0);
+        Due.drops("no drops in a kerb at the first place", Due.laid("s2,2;w0,5;k0,3;h1,20;h2,20;"), 0, 0, 0, 0);
+        PuddleStates again = Due.laid("s2,2;k0,4;h0,9;w1,9;");
+        again.wipe();
+        for (char letter : "h1,6;".toCharArray()) {
+            again.write(letter);
+        }
+        Due.is("nothing stays of the text before", again.lay(), 20);
+        Due.is("kind", again.cell(0, 1), 0);
+        Due.is("height", again.cell(0, 0), 5);
+        Due.is("drops", again.count(4), 0);
         PuddleStates first = Due.laid("h0,5;");
         Due.is("without s: cells", first.count(0), 20);
         Due.is("without s: rows", first.count(1), 4);
@@ -142,6 +152,7 @@ final class SquareTest {
         p.ring(0, 1);
         p.keep();
         p.keep();
+        p.behind(7, 0, 0);
         Due.is("lay()", p.lay(), 4);
         for (int what = 5; what <= 8; what++) {
             Due.is("laid anew: count(" + what + ")", p.count(what), 0);
@@ -174,11 +185,11 @@ final class SquareTest {
     }
 
     private static void cell() {
-        PuddleStates p = Due.laid("s2,4;h2,20;h6,20;w0,4;w3,3;k1,1;k4,3;");
+        PuddleStates p = Due.laid("s2,4;h2,20;h6,20;w0,4;w3,5;k1,1;k4,3;");
         // Cells 0, 1, 5 are one state and 3, 7 another, with a wall of stone in 2, 6; 4 is a kerb.
-        Due.drops("two states", p, 2, 1, 0, 2, 0, 1, 0, 1);
-        int[][] due = {{5, 0, 2, 0, 3, 2}, {5, 1, 1, 0, 3, 2}, {20, 0, 0, NONE, 0, 0}, {5, 0, 2, 3, 2, 2},
-            {5, 3, 0, NONE, 0, 0}, {5, 0, 1, 0, 3, 2}, {20, 0, 0, NONE, 0, 0}, {5, 0, 1, 3, 2, 2}};
+        Due.drops("two states", p, 2, 1, 0, 3, 0, 1, 0, 2);
+        int[][] due = {{5, 0, 2, 0, 3, 2}, {5, 1, 1, 0, 3, 2}, {20, 0, 0, NONE, 0, 0}, {5, 0, 3, 3, 2, 3},
+            {5, 3, 0, NONE, 0, 0}, {5, 0, 1, 0, 3, 2}, {20, 0, 0, NONE, 0, 0}, {5, 0, 2, 3, 2, 3}};
         for (int x = 0; x < due.length; x++) {
             for (int what = 0; what < 6; what++) {
                 Due.is("cell(" + x + ", " + what + ")", p.cell(x, what), due[x][what]);
@@ -190,6 +201,10 @@ final class SquareTest {
         Due.is("cell(-1, 0)", p.cell(-1, 0), BAD);
         Due.is("cell(0, 6)", p.cell(0, 6), BAD);
         Due.is("cell(0, -1)", p.cell(0, -1), BAD);
+        PuddleStates round = Due.laid("s2,3;h1,20;w0,2;w2,1;w3,2;w4,2;w5,1;");
+        Due.is("a state round a stone", round.count(3), 1);
+        Due.is("its name", round.cell(2, 3), 0);
+        Due.is("its cells", round.cell(2, 4), 5);
         Due.is("corner to corner is not beside", Due.laid("s2,2;h1,9;h2,9;w0,1;w3,1;").count(3), 2);
         Due.is("a row's end is not beside the next row", Due.laid("s2,3;h0,9;h1,9;h4,9;h5,9;w2,1;w3,1;").count(3), 2);
     }

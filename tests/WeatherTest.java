@@ -10,6 +10,7 @@ final class WeatherTest {
         stone();
         undo();
         undoAll();
+        undoStonesAndHours();
         Due.end("WeatherTest");
     }
 
@@ -149,6 +150,27 @@ final class WeatherTest {
         p.rain(1);
         Due.is("rings are not undone", p.undo() + p.count(6), 1);
         Due.is("the text is not undone", p.count(9), 10);
+    }
+
+    private static void undoStonesAndHours() {
+        PuddleStates p = Due.laid("s2,2;h0,15;");
+        for (int i = 1; i <= 10; i++) {
+            Due.is("dug", p.stone(0, true), 15 - i);
+        }
+        for (int i = 1; i <= 8; i++) {
+            p.undo();
+            Due.is("height behind undo " + i, p.cell(0, 0), 5 + i);
+        }
+        Due.is("no more", p.undo(), NO);
+        for (int i = 1; i <= 10; i++) {
+            Due.is("hours", p.shine(i), i * (i + 1) / 2);
+        }
+        for (int i = 9; i >= 2; i--) {
+            p.undo();
+            Due.is("hours behind undo", p.count(5), i * (i + 1) / 2);
+        }
+        Due.is("no more", p.undo(), NO);
+        Due.is("the height is not undone twice", p.cell(0, 0), 13);
     }
 
     private static void undoAll() {

@@ -15,7 +15,7 @@ public final class PuddleStates {
     private static final int MOST_UNDONE = 8, MOST_KEPT = 2, MOST_RINGS = 6;
     private static final int MOST_SUN = 6, TENTHS = 10;
     private static final int MOST_YEAR = 9999, MOST_DAYS = 30;
-    private static final int ALWAYS_APART = 100;
+    private static final int ALWAYS_APART = 100, ALL_RAINS = Integer.MAX_VALUE;
     // Each drop that flows lowers the sum of all levels squared, or is gone, so far fewer rounds are ever needed.
     private static final int MOST_ROUNDS = 1000000;
     private static final String FIRST_TEXT =
@@ -236,7 +236,7 @@ public final class PuddleStates {
         if (apartBehindRain(ground, x, y, k)) {
             return ALWAYS_APART;
         }
-        for (int c = 0; c < ground.cells; c++) {
+        for (int c = 0; c < ground.cells && c < MOST_CELLS; c++) {
             if (mayBeKerb(c, x, y)) {
                 otherGround.copyFrom(ground);
                 otherGround.makeKerb(c);
@@ -270,6 +270,9 @@ public final class PuddleStates {
     }
 
     public int rains() {
+        if (rings == 0) {
+            return ALL_RAINS;
+        }
         int bits = 0;
         for (int k = 0; k <= MOST_ASKED_RAIN; k++) {
             later.copyFrom(now);
@@ -393,7 +396,7 @@ public final class PuddleStates {
     }
 
     private boolean mayBeKerb(int c, int x, int y) {
-        return c != x && c != y && ground.kind[c] != KERB && now.drops[c] == 0;
+        return ground.holds(c) && c != x && c != y && ground.kind[c] != KERB && now.drops[c] == 0;
     }
 
     private boolean ringsHold() {
@@ -456,6 +459,7 @@ public final class PuddleStates {
         final int[] kind = new int[MOST_CELLS];
         /** For each cell those beside it: up, down, right, left; NONE where there is none or a kerb. */
         final int[] beside = new int[MOST_CELLS * SIDES];
+        private final long[] besideBits = new long[MOST_CELLS];
 
         boolean holds(int x) {
             return x >= 0 && x < cells && x < MOST_CELLS;
@@ -490,24 +494,31 @@ public final class PuddleStates {
             cells = other.cells;
             System.arraycopy(other.kind, 0, kind, 0, MOST_CELLS);
             System.arraycopy(other.beside, 0, beside, 0, MOST_CELLS * SIDES);
+            System.arraycopy(other.besideBits, 0, besideBits, 0, MOST_CELLS);
         }
 
         /** To be called when the shape or a kind has changed. */
         void link() {
+            Arrays.fill(besideBits, 0);
             for (int row = 0; row < rows && row < MOST_SIDE; row++) {
                 for (int column = 0; column < columns && column < MOST_SIDE; column++) {
-                    linkCell(row, column);
+                    int x = row * columns + column;
+                    linkSide(x, 0, row - 1, column);
+                    linkSide(x, 1, row + 1, column);
+                    linkSide(x, 2, row, column + 1);
+                    linkSide(x, 3, row, column - 1);
                 }
             }
         }
 
-        private void linkCell(int row, int column) {
-            int first = (row * columns + column) * SIDES;
-            if (first >= 0 && first + SIDES <= MOST_CELLS * SIDES) {
-                beside[first] = walkable(row - 1, column);
-                beside[first + 1] = walkable(row + 1, column);
-                beside[first + 2] = walkable(row, column + 1);
-                beside[first + 3] = walkable(row, column - 1);
+        private void linkSide(int x, int side, int row, int column) {
+            int at = x * SIDES + side;
+            if (!holds(x) || at < 0 || at >= beside.length) {
+                return;
+            }
+            beside[at] = walkable(row, column);
+            if (beside[at] != NONE) {
+                besideBits[x] |= 1L << beside[at];
             }
         }
 
@@ -522,18 +533,20 @@ public final class PuddleStates {
         /** The cell on a side (0 to 3) of a cell; NONE. */
         int cellBeside(int x, int side) {
             int at = x * SIDES + side;
-            return at >= 0 && at < MOST_CELLS * SIDES ? beside[at] : NONE;
+            return at >= 0 && at < beside.length ? beside[at] : NONE;
+        }
+
+        /** Cell y is beside cell x if bit y is set. */
+        long bitsBeside(int x) {
+            return holds(x) ? besideBits[x] : 0;
         }
 
         /** Cells as bits: these and those beside them. */
         long withBeside(long these) {
             long all = these;
             for (int x = 0; x < cells && x < MOST_CELLS; x++) {
-                for (int side = 0; side < SIDES; side++) {
-                    int to = cellBeside(x, side);
-                    if (holds(to) && (these >> x & 1) == 1) {
-                        all |= 1L << to;
-                    }
+                if ((these >> x & 1) == 1) {
+                    all |= besideBits[x];
                 }
             }
             return all;
@@ -553,6 +566,8 @@ public final class PuddleStates {
         final int[] height = new int[MOST_CELLS];
         final int[] drops = new int[MOST_CELLS];
         int hours = 0;
+        /** While water flows: cells from which a drop may go, as bits; all others are known to keep theirs. */
+        private long restless = 0;
 
         void makeDry() {
             Arrays.fill(height, FIRST_HEIGHT);
@@ -651,37 +666,41 @@ public final class PuddleStates {
         }
 
         void flow(Ground ground) {
-            boolean moved = true;
-            for (int round = 0; moved && round < MOST_ROUNDS; round++) {
-                moved = flowOnce(ground);
-            }
-        }
-
-        private boolean flowOnce(Ground ground) {
-            boolean moved = false;
-            for (int x = 0; x < ground.cells && x < MOST_CELLS; x++) {
-                if (drops[x] > 0) {
-                    int to = whereTo(ground, x);
-                    if (ground.holds(to)) {
-                        drops[x]--;
-                        putDrop(ground, to);
-                        moved = true;
+            restless = wetBits(ground);
+            for (int round = 0; restless != 0 && round < MOST_ROUNDS; round++) {
+                for (int x = 0; x < ground.cells && x < MOST_CELLS; x++) {
+                    if ((restless >> x & 1) == 1) {
+                        flowFrom(ground, x);
                     }
                 }
             }
-            return moved;
+        }
+
+        private void flowFrom(Ground ground, int x) {
+            int to = whereTo(ground, x);
+            if (to == NONE) {
+                restless &= ~(1L << x);
+            } else {
+                drops[x]--;
+                putDrop(ground, to);
+                restless |= ground.bitsBeside(x);
+            }
         }
 
         private int whereTo(Ground ground, int x) {
+            int first = x * SIDES;
+            if (!ground.holds(x) || drops[x] <= 0 || first + SIDES > ground.beside.length) {
+                return NONE;
+            }
+            int level = height[x] + drops[x];
             int best = NONE;
-            int bestLevel = height[x] + drops[x];
-            int level = bestLevel;
-            for (int side = 0; side < SIDES; side++) {
-                int to = ground.cellBeside(x, side);
-                if (ground.holds(to)) {
+            int bestLevel = level;
+            for (int i = first; i < first + SIDES; i++) {
+                int to = ground.beside[i];
+                if (to >= 0 && to < MOST_CELLS) {
                     int levelThere = height[to] + drops[to];
-                    int step = ground.kind[to] == DRAIN ? 1 : 2;
-                    if (levelThere <= level - step && levelThere < bestLevel) {
+                    boolean lowEnough = levelThere <= level - 2 || ground.kind[to] == DRAIN;
+                    if (lowEnough && levelThere < bestLevel) {
                         best = to;
                         bestLevel = levelThere;
                     }

@@ -2,15 +2,24 @@
 final class Due {
     private static int wrong = 0;
     private static int asked = 0;
+    private static int sentences = 0;
+    private static String sentence = "";
 
     private Due() {
+    }
+
+    /** What is asked from here on stands for this sentence of the document. */
+    static void sentence(String told) {
+        sentences++;
+        sentence = told;
     }
 
     static void is(String call, long got, long want) {
         asked++;
         if (got != want) {
             wrong++;
-            System.out.println(call + " answered " + got + ", due is " + want);
+            String of = sentence.isEmpty() ? "" : "[" + sentence + "] ";
+            System.out.println(of + call + " answered " + got + ", due is " + want);
         }
     }
 
@@ -20,7 +29,8 @@ final class Due {
 
     /** Ends the test: with exit code 1 if an answer was wrong. */
     static void end(String test) {
-        System.out.println(test + ": " + asked + " answers, " + wrong + " wrong");
+        String of = sentences == 0 ? "" : sentences + " sentences, ";
+        System.out.println(test + ": " + of + asked + " answers, " + wrong + " wrong");
         if (wrong != 0 || asked == 0) {
             System.exit(1);
         }
@@ -28,10 +38,16 @@ final class Due {
 
     static PuddleStates withText(String text) {
         PuddleStates puddles = new PuddleStates();
-        for (int i = 0; i < text.length(); i++) {
-            is("write '" + text.charAt(i) + "' of " + text, puddles.write(text.charAt(i)), i + 1);
-        }
+        write(puddles, text);
         return puddles;
+    }
+
+    /** Behind letters that may be there already. */
+    static void write(PuddleStates puddles, String text) {
+        int ahead = puddles.count(9);
+        for (int i = 0; i < text.length(); i++) {
+            is("write '" + text.charAt(i) + "' of " + text, puddles.write(text.charAt(i)), ahead + i + 1);
+        }
     }
 
     static PuddleStates laid(String text) {

@@ -26,7 +26,7 @@ final class ModelTest {
     private void go() {
         while (calls < CALLS) {
             int kind = random.nextInt(100);
-            if (calls == 0 && run % 10 != 0 || kind == 0) {
+            if (calls == 0 && run % 10 != 0 || kind == 0 && calls < CALLS - 20) {
                 newSquare();
             } else {
                 one(random.nextInt(100));
@@ -40,7 +40,7 @@ final class ModelTest {
     }
 
     private void write(String letters) {
-        for (int i = 0; i < letters.length() && calls < CALLS - 8; i++) {
+        for (int i = 0; i < letters.length() && calls < CALLS - 9; i++) {
             char letter = letters.charAt(i);
             is("write '" + letter + "'", puddles.write(letter), model.write(letter));
         }

@@ -158,9 +158,9 @@ final class YearTest {
     }
 
     private static void noArgumentThrows() {
-        PuddleStates p = new PuddleStates();
         int[] odd = {Integer.MIN_VALUE, -5, -1, 0, 1, 19, 20, 35, 36, 37, 1 << 30, Integer.MAX_VALUE};
         for (int a : odd) {
+            PuddleStates p = new PuddleStates();
             for (int b : odd) {
                 int ahead = p.count(0);
                 p.cell(a, b);

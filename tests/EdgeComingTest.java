@@ -280,6 +280,17 @@ final class EdgeComingTest {
         PuddleStates ridge = Due.laid("s2,3;k3,3;k4,3;k5,3;h0,3;h2,3;w0,5;w1,3;w2,5;");
         Due.drops("ahead", ridge, 5, 3, 5, 0, 0, 0);
         Due.is("by the ridge", ridge.part(0, 2), 3);
+        // Cell 2 is a shade between two pumps: in the fourth hour it dries, and takes the drop of pump 0.
+        PuddleStates pumps = Due.laid("s2,2;k0,4;w1,7;h2,4;k2,1;k3,4;");
+        int[] together = {1, 1, 1, 1, 0, 1};
+        for (int n = 0; n < together.length; n++) {
+            Due.is("behind " + n, pumps.behind(n, 0, 1) == pumps.behind(n, 3, 1) ? 1 : 0, together[n]);
+        }
+        Due.is("first, though they hang together later", pumps.part(0, 3), 4);
+        pumps.shine(4);
+        Due.is("not of one by then", pumps.part(0, 3), NO);
+        pumps.shine(1);
+        Due.is("of one again", pumps.cell(0, 3), pumps.cell(3, 3));
     }
 
     private static void partBeyondSixty() {

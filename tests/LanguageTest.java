@@ -7,7 +7,7 @@ import java.util.List;
 final class LanguageTest {
     private static final String[] RULED_OUT = {"::", "finally", "synchronized", "assert ", "while (true)", "for (;;)",
         "static {", "package ", "Random", "random(", "currentTime", "nanoTime", "Thread", "System.out", "System.err",
-        "System.exit", "Exact(", "hashCode", "toString() {", "try (", "instanceof Object", "Lambda"};
+        "System.exit", "Exact(", "hashCode", "toString() {", "try (", "_VALUE"};
     /** What the machine throws, and the classes above it: no call is answered by catching these. */
     private static final String[] NOT_CAUGHT = {"Throwable", "Exception e", "RuntimeException", "IndexOutOfBounds",
         "NullPointer", "ArithmeticException", "ClassCast", "NegativeArraySize", "ArrayStore", "Error"};

@@ -15,7 +15,7 @@ public final class PuddleStates {
     private static final int MOST_UNDONE = 8, MOST_KEPT = 2, MOST_RINGS = 6;
     private static final int MOST_SUN = 6, TENTHS = 10;
     private static final int MOST_YEAR = 9999, MOST_DAYS = 30;
-    private static final int ALWAYS_APART = 100, ALL_RAINS = Integer.MAX_VALUE;
+    private static final int ALWAYS_APART = 100, ALL_RAINS = 0x7FFFFFFF;
     // Each drop that flows lowers the sum of all levels squared, or is gone, so far fewer rounds are ever needed.
     private static final int MOST_ROUNDS = 1000000;
     private static final String FIRST_TEXT =
@@ -173,7 +173,7 @@ public final class PuddleStates {
                 return what == 0 ? hours : last;
             }
             last = wet;
-            later.passHours(ground, 1);
+            later.passHour(ground);
         }
         return NONE;
     }
@@ -200,7 +200,7 @@ public final class PuddleStates {
         }
         later.copyFrom(now);
         for (int hours = 1; hours <= MOST_PART; hours++) {
-            later.passHours(ground, 1);
+            later.passHour(ground);
             states.map(ground, later);
             if (states.apart(x, y)) {
                 return hours;
@@ -223,7 +223,7 @@ public final class PuddleStates {
                 return hours;
             }
             here = ground.withBeside(here) & later.wetBits(ground);
-            later.passHours(ground, 1);
+            later.passHour(ground);
             here &= later.wetBits(ground);
         }
         return NONE;
@@ -417,7 +417,7 @@ public final class PuddleStates {
             if (ground.holds(x) && later.drops[x] > 0) {
                 bits |= 1 << hours;
             }
-            later.passHours(ground, 1);
+            later.passHour(ground);
         }
         return bits;
     }
@@ -634,7 +634,7 @@ public final class PuddleStates {
             }
         }
 
-        private void passHour(Ground ground) {
+        void passHour(Ground ground) {
             hours++;
             boolean shadeDries = hours % 2 == 0;
             for (int x = 0; x < ground.cells && x < MOST_CELLS; x++) {

@@ -221,6 +221,20 @@ final class EdgeFlowTest {
         }
         out.ring(29, 0);
         Due.is("by no rain one stays beside it", out.rains(), Integer.MAX_VALUE);
+        fullAgain();
+    }
+
+    /** A pool that holds all that it can is the same again behind each rain, but only when the last drop has run out. */
+    private static void fullAgain() {
+        PuddleStates full = Due.laid("s6,6;k34,3;k35,2;");
+        for (int i = 0; i < 20; i++) {
+            full.rain(9);
+        }
+        for (int x = 0; x < 36; x++) {
+            full.forget();
+            full.ring(x, full.cell(x, 2));
+            Due.is("cell " + x + " of a full pool is as it was by each rain", full.rains(), Integer.MAX_VALUE);
+        }
     }
 
     private static String kerbs(int from, int to) {

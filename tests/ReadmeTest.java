@@ -8,10 +8,11 @@ import java.util.List;
 import java.util.regex.Matcher;
 import java.util.regex.Pattern;
 
-/** README.md tells the truth: its example answers as it says, and every call has a row; run from the project's folder. */
+/** README.md's example answers as it says, and every call has a row there; run from the project's folder. */
 final class ReadmeTest {
     private static final Pattern NEW = Pattern.compile("PuddleStates p = new PuddleStates\\(\\);");
-    private static final Pattern WRITTEN = Pattern.compile("for \\(char c : \"([^\"]+)\"\\.toCharArray\\(\\)\\) p\\.write\\(c\\);");
+    private static final Pattern WRITTEN =
+        Pattern.compile("for \\(char c : \"([^\"]+)\"\\.toCharArray\\(\\)\\) p\\.write\\(c\\);");
     private static final Pattern CALL = Pattern.compile("p\\.(\\w+)\\(([^)]*)\\); +// (-?\\d+)");
     private static final Pattern ROW = Pattern.compile("\\| `(\\w+)\\(([^)]*)\\)` \\|.*");
 
